@@ -1,0 +1,67 @@
+/** What the tests share: each call is compared with the answer that is due. */
+final class Checks {
+    static final String INDEX = "throws.IndexOutOfBoundsException";
+    static final String ARGUMENT = "throws.IllegalArgumentException";
+    static final String STATE = "throws.IllegalStateException";
+    static final String MISSING = "throws.NoSuchElementException";
+    static final String UNSUPPORTED = "throws.UnsupportedOperationException";
+    static final String ARITHMETIC = "throws.ArithmeticException";
+
+    private static int wrong = 0;
+
+    interface Call {
+        Object answer();
+    }
+
+    private Checks() {
+    }
+
+    static String answerOf(Call call) {
+        try {
+            return String.valueOf(call.answer());
+        } catch (RuntimeException thrown) {
+            // The exact class: an exception of the machine is often a subclass of the one that is due.
+            return "throws." + thrown.getClass().getSimpleName();
+        }
+    }
+
+    static void due(Object want, Call call) {
+        report(String.valueOf(want), answerOf(call));
+    }
+
+    /** The call throws this, and the survey answers all as before. */
+    static void refused(SwathSurvey survey, String want, Call call) {
+        String before = Snapshot.of(survey);
+        report(want, answerOf(call));
+        if (!before.equals(Snapshot.of(survey))) {
+            report("nothing changed", "changed");
+        }
+    }
+
+    static void wrong(String what) {
+        wrong++;
+        System.out.println(what);
+    }
+
+    static void end(String test) {
+        System.out.println(test + (wrong == 0 ? ": all as due" : ": " + wrong + " not as due"));
+        if (wrong != 0) {
+            System.exit(1);
+        }
+    }
+
+    private static void report(String want, String got) {
+        if (!want.equals(got)) {
+            wrong(callerOf() + ": answered " + got + ", due is " + want);
+        }
+    }
+
+    private static String callerOf() {
+        for (StackTraceElement element : new Throwable().getStackTrace()) {
+            if (!element.getClassName().equals("Checks")) {
+                return element.getFileName() + ":" + element.getLineNumber();
+            }
+        }
+        return "?";
+    }
+}
