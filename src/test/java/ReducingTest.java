@@ -10,6 +10,8 @@ final class ReducingTest {
         spikesOfOneCell();
         spikesBesideLostCells();
         losing();
+        widestSwaths();
+        tidesOfTheShip();
         refusing();
         Checks.end("ReducingTest");
     }
@@ -134,6 +136,42 @@ final class ReducingTest {
         Checks.due(0, () -> x.lost(0));
         x.fail(0, 0, 1, 7);
         Checks.due(15, () -> x.lost(0));
+    }
+
+    private static void widestSwaths() {
+        SwathSurvey x = new SwathSurvey();
+        for (int column = 3; column < 8; column++) {
+            x.setFloor(column, 5, 30);
+        }
+        x.run('r', 5, 3, 7, 0, 0);
+        Checks.due(35, () -> x.lost(0));
+        x.addGauge(0);
+        Checks.due(0, () -> x.lost(0));
+        for (int side : new int[] {-3, 3}) {
+            Checks.due(20, () -> x.reduced(0, 2, side));
+            Checks.due(20, () -> x.depth(5, 5 + side));
+            x.disturb(0, 2, side, 9);
+            Checks.due(29, () -> x.reduced(0, 2, side));
+            Checks.due(true, () -> x.isSpike(0, 2, side));
+            Checks.due(Checks.UNSUPPORTED, () -> x.depth(5, 5 + side));
+        }
+        Checks.due(2, () -> x.spikes(0));
+        Checks.due(33, x::charted);
+    }
+
+    private static void tidesOfTheShip() {
+        SwathSurvey x = new SwathSurvey();
+        x.setSlope(0, 2);
+        x.addGauge(2);
+        x.addGauge(12);
+        x.run('c', 7, 0, 4, 0, 0);
+        // In column 7: water 3, tide 1 + 5 * 5 / 10; in column 8 the tide would be 4.
+        for (int side = -2; side <= 2; side++) {
+            int asked = side;
+            Checks.due(20, () -> x.reduced(0, 2, asked));
+        }
+        x.fail(0, 0, 0, 24);
+        Checks.due(17, () -> x.reduced(0, 2, 2));
     }
 
     private static void refusing() {

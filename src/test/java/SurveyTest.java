@@ -62,6 +62,12 @@ final class SurveyTest {
         Checks.due(2, x::toRun);
         x.mend(0, 0);
         Checks.due(0, x::toRun);
+        // One lost sounding is enough.
+        x.setFloor(0, 11, 9);
+        x.run('r', 11, 0, 0, 2, 12);
+        x.fail(0, 2, 8, 18);
+        Checks.due(1, () -> x.lost(3));
+        Checks.due(1, x::toRun);
     }
 
     private static void crossing() {
@@ -133,6 +139,13 @@ final class SurveyTest {
         Checks.due(0, x::worstCross);
         x.fail(0, 3, 0, 24);
         Checks.refused(x, Checks.UNSUPPORTED, x::worstCross);
+        x.mend(0, 1);
+        x.mend(0, 2);
+        // Then lines 1 and 2, run one behind the other, are the worst pair.
+        Checks.due(0, () -> x.cross(1, 2));
+        x.disturb(2, 8, 0, -20);
+        x.disturb(2, 4, 0, 0);
+        Checks.due(20, x::worstCross);
     }
 
     private static void hours() {
