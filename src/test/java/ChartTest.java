@@ -58,8 +58,8 @@ final class ChartTest {
         x.run('r', 0, 0, 19, 0, 0);
         Checks.due(0, x::charted);
         for (int[] cell : new int[][] {{-1, 0}, {20, 0}, {0, -1}, {0, 12}, {Integer.MAX_VALUE, Integer.MIN_VALUE}}) {
-            Checks.refused(x, Checks.INDEX, () -> x.depth(cell[0], cell[1]));
-            Checks.refused(x, Checks.INDEX, () -> x.depthAnew(cell[0], cell[1]));
+            Checks.due(Checks.INDEX, () -> x.depth(cell[0], cell[1]));
+            Checks.due(Checks.INDEX, () -> x.depthAnew(cell[0], cell[1]));
         }
         dueDepth(x, Checks.UNSUPPORTED, 0, 0);
         dueDepth(x, Checks.UNSUPPORTED, 19, 11);
@@ -74,10 +74,10 @@ final class ChartTest {
         Checks.due(19, () -> x.gap(19));
         Checks.due(100, () -> x.gap(20));
         Checks.due(1119, () -> x.gap(239));
-        Checks.refused(x, Checks.MISSING, () -> x.gap(240));
-        Checks.refused(x, Checks.MISSING, () -> x.gap(-1));
-        Checks.refused(x, Checks.MISSING, () -> x.gap(Integer.MIN_VALUE));
-        Checks.refused(x, Checks.MISSING, () -> x.gap(Integer.MAX_VALUE));
+        Checks.due(Checks.MISSING, () -> x.gap(240));
+        Checks.due(Checks.MISSING, () -> x.gap(-1));
+        Checks.due(Checks.MISSING, () -> x.gap(Integer.MIN_VALUE));
+        Checks.due(Checks.MISSING, () -> x.gap(Integer.MAX_VALUE));
         x.run('r', 0, 0, 18, 0, 0);
         Checks.due(19, () -> x.gap(0));
         Checks.due(119, () -> x.gap(1));
@@ -127,7 +127,7 @@ final class ChartTest {
         Checks.due(240, x::charted);
         Checks.due(1.0f, x::chartedShare);
         Checks.due(Checks.MISSING, () -> x.gap(0));
-        Checks.refused(x, Checks.STATE, x::bestRow);
+        Checks.due(Checks.STATE, x::bestRow);
     }
 
     private static void means() {

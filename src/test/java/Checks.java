@@ -29,15 +29,6 @@ final class Checks {
         report(String.valueOf(want), answerOf(call));
     }
 
-    /** The call throws this, and the survey answers all as before. */
-    static void refused(SwathSurvey survey, String want, Call call) {
-        String before = Snapshot.of(survey);
-        report(want, answerOf(call));
-        if (!before.equals(Snapshot.of(survey))) {
-            report("nothing changed", "changed");
-        }
-    }
-
     static void wrong(String what) {
         wrong++;
         System.out.println(what);
@@ -52,13 +43,14 @@ final class Checks {
 
     private static void report(String want, String got) {
         if (!want.equals(got)) {
-            wrong(callerOf() + ": answered " + got + ", due is " + want);
+            wrong(caller() + ": answered " + got + ", due is " + want);
         }
     }
 
-    private static String callerOf() {
+    /** The line of the test that is checked, not one of its helpers, whose names begin with "due". */
+    static String caller() {
         for (StackTraceElement element : new Throwable().getStackTrace()) {
-            if (!element.getClassName().equals("Checks")) {
+            if (element.getClassName().endsWith("Test") && !element.getMethodName().startsWith("due")) {
                 return element.getFileName() + ":" + element.getLineNumber();
             }
         }

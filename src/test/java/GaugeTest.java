@@ -16,20 +16,20 @@ final class GaugeTest {
 
     private static void adding() {
         SwathSurvey x = new SwathSurvey();
-        Checks.refused(x, Checks.INDEX, () -> x.addGauge(-1));
-        Checks.refused(x, Checks.INDEX, () -> x.addGauge(20));
+        Checks.due(Checks.INDEX, () -> x.addGauge(-1));
+        Checks.due(Checks.INDEX, () -> x.addGauge(20));
         Checks.due(0, () -> x.addGauge(19));
-        Checks.refused(x, Checks.UNSUPPORTED, () -> x.addGauge(19));
+        Checks.due(Checks.UNSUPPORTED, () -> x.addGauge(19));
         Checks.due(1, () -> x.addGauge(0));
         Checks.due(2, () -> x.addGauge(7));
-        Checks.refused(x, Checks.UNSUPPORTED, () -> x.addGauge(7));
-        Checks.refused(x, Checks.STATE, () -> x.addGauge(8));
-        Checks.refused(x, Checks.INDEX, () -> x.addGauge(Integer.MAX_VALUE));
+        Checks.due(Checks.UNSUPPORTED, () -> x.addGauge(7));
+        Checks.due(Checks.STATE, () -> x.addGauge(8));
+        Checks.due(Checks.INDEX, () -> x.addGauge(Integer.MAX_VALUE));
     }
 
     private static void failing() {
         SwathSurvey x = new SwathSurvey();
-        Checks.refused(x, Checks.MISSING, () -> x.fail(0, 10, 24, 0));
+        Checks.due(Checks.MISSING, () -> x.fail(0, 10, 24, 0));
         x.addGauge(3);
         Checks.due(23, () -> x.fail(0, 2, 23, 24));
         Checks.due(21, () -> x.fail(0, 2, 4, 6));
@@ -37,22 +37,22 @@ final class GaugeTest {
         Checks.due(20, () -> x.fail(0, 2, 4, 7));
         Checks.due(0, () -> x.fail(0, 3, 0, 24));
         Checks.due(23, () -> x.fail(0, 4, 0, 1));
-        Checks.refused(x, Checks.MISSING, () -> x.fail(1, 0, 0, 1));
-        Checks.refused(x, Checks.MISSING, () -> x.fail(-1, 0, 0, 1));
-        Checks.refused(x, Checks.INDEX, () -> x.fail(0, 10, 0, 1));
-        Checks.refused(x, Checks.INDEX, () -> x.fail(0, -1, 0, 1));
-        Checks.refused(x, Checks.INDEX, () -> x.fail(0, 0, 24, 25));
-        Checks.refused(x, Checks.INDEX, () -> x.fail(0, 0, -1, 3));
-        Checks.refused(x, Checks.ARGUMENT, () -> x.fail(0, 0, 3, 3));
-        Checks.refused(x, Checks.ARGUMENT, () -> x.fail(0, 0, 3, 2));
-        Checks.refused(x, Checks.ARGUMENT, () -> x.fail(0, 0, 3, 25));
-        Checks.refused(x, Checks.ARGUMENT, () -> x.fail(0, 0, 3, Integer.MAX_VALUE));
+        Checks.due(Checks.MISSING, () -> x.fail(1, 0, 0, 1));
+        Checks.due(Checks.MISSING, () -> x.fail(-1, 0, 0, 1));
+        Checks.due(Checks.INDEX, () -> x.fail(0, 10, 0, 1));
+        Checks.due(Checks.INDEX, () -> x.fail(0, -1, 0, 1));
+        Checks.due(Checks.INDEX, () -> x.fail(0, 0, 24, 25));
+        Checks.due(Checks.INDEX, () -> x.fail(0, 0, -1, 3));
+        Checks.due(Checks.ARGUMENT, () -> x.fail(0, 0, 3, 3));
+        Checks.due(Checks.ARGUMENT, () -> x.fail(0, 0, 3, 2));
+        Checks.due(Checks.ARGUMENT, () -> x.fail(0, 0, 3, 25));
+        Checks.due(Checks.ARGUMENT, () -> x.fail(0, 0, 3, Integer.MAX_VALUE));
         Checks.due(23, () -> x.fail(0, 0, 3, 4));
     }
 
     private static void mending() {
         SwathSurvey x = new SwathSurvey();
-        Checks.refused(x, Checks.MISSING, () -> x.mend(0, 10));
+        Checks.due(Checks.MISSING, () -> x.mend(0, 10));
         x.addGauge(3);
         x.addGauge(4);
         x.fail(0, 2, 4, 9);
@@ -64,10 +64,10 @@ final class GaugeTest {
         Checks.due(2, () -> x.mend(1, 2));
         Checks.due(24, () -> x.mend(0, 3));
         Checks.due(23, () -> x.fail(0, 3, 7, 8));
-        Checks.refused(x, Checks.MISSING, () -> x.mend(2, 0));
-        Checks.refused(x, Checks.MISSING, () -> x.mend(-1, 0));
-        Checks.refused(x, Checks.INDEX, () -> x.mend(0, 10));
-        Checks.refused(x, Checks.INDEX, () -> x.mend(0, -1));
+        Checks.due(Checks.MISSING, () -> x.mend(2, 0));
+        Checks.due(Checks.MISSING, () -> x.mend(-1, 0));
+        Checks.due(Checks.INDEX, () -> x.mend(0, 10));
+        Checks.due(Checks.INDEX, () -> x.mend(0, -1));
     }
 
     private static void telling() {
@@ -100,11 +100,11 @@ final class GaugeTest {
         Checks.due(Checks.UNSUPPORTED, () -> x.told(0, 2, 23));
         Checks.due(0, () -> x.told(0, 2, 21));
         Checks.due(0, () -> x.told(0, 3, 0));
-        Checks.refused(x, Checks.MISSING, () -> x.told(1, 0, 0));
-        Checks.refused(x, Checks.INDEX, () -> x.told(0, 10, 0));
-        Checks.refused(x, Checks.INDEX, () -> x.told(0, -1, 0));
-        Checks.refused(x, Checks.INDEX, () -> x.told(0, 0, 24));
-        Checks.refused(x, Checks.INDEX, () -> x.told(0, 2, -1));
+        Checks.due(Checks.MISSING, () -> x.told(1, 0, 0));
+        Checks.due(Checks.INDEX, () -> x.told(0, 10, 0));
+        Checks.due(Checks.INDEX, () -> x.told(0, -1, 0));
+        Checks.due(Checks.INDEX, () -> x.told(0, 0, 24));
+        Checks.due(Checks.INDEX, () -> x.told(0, 2, -1));
     }
 
     private static void fallingWaterRoundsDown() {
@@ -133,12 +133,12 @@ final class GaugeTest {
             int asked = column;
             Checks.due(want[column], () -> x.tide(asked, 0, 0));
         }
-        Checks.refused(x, Checks.INDEX, () -> x.tide(-1, 0, 0));
-        Checks.refused(x, Checks.INDEX, () -> x.tide(20, 0, 0));
-        Checks.refused(x, Checks.INDEX, () -> x.tide(0, 10, 0));
-        Checks.refused(x, Checks.INDEX, () -> x.tide(0, -1, 0));
-        Checks.refused(x, Checks.INDEX, () -> x.tide(0, 0, 24));
-        Checks.refused(x, Checks.INDEX, () -> x.tide(0, 0, -1));
+        Checks.due(Checks.INDEX, () -> x.tide(-1, 0, 0));
+        Checks.due(Checks.INDEX, () -> x.tide(20, 0, 0));
+        Checks.due(Checks.INDEX, () -> x.tide(0, 10, 0));
+        Checks.due(Checks.INDEX, () -> x.tide(0, -1, 0));
+        Checks.due(Checks.INDEX, () -> x.tide(0, 0, 24));
+        Checks.due(Checks.INDEX, () -> x.tide(0, 0, -1));
     }
 
     private static void tidesLeaveSilentGaugesOut() {

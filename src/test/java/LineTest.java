@@ -20,20 +20,20 @@ final class LineTest {
     private static void runningRefuses() {
         SwathSurvey x = new SwathSurvey();
         for (char kind : new char[] {'R', 'C', 'x', 0, (char) 65535}) {
-            Checks.refused(x, Checks.ARGUMENT, () -> x.run(kind, 0, 0, 0, 0, 0));
+            Checks.due(Checks.ARGUMENT, () -> x.run(kind, 0, 0, 0, 0, 0));
         }
         int[][] outside = {{-1, 0, 0, 0, 0}, {12, 0, 0, 0, 0}, {0, -1, 0, 0, 0}, {0, 20, 0, 0, 0}, {0, 0, -1, 0, 0},
             {0, 0, 20, 0, 0}, {0, 0, 0, -1, 0}, {0, 0, 0, 10, 0}, {0, 0, 0, 0, -1}, {0, 0, 0, 0, 24},
             {0, Integer.MIN_VALUE, Integer.MAX_VALUE, 0, 0}};
         for (int[] way : outside) {
-            Checks.refused(x, Checks.INDEX, () -> x.run('r', way[0], way[1], way[2], way[3], way[4]));
+            Checks.due(Checks.INDEX, () -> x.run('r', way[0], way[1], way[2], way[3], way[4]));
         }
         int[][] outsideAlongColumn = {{-1, 0, 0}, {20, 0, 0}, {0, -1, 0}, {0, 12, 0}, {0, 0, -1}, {0, 0, 12}};
         for (int[] way : outsideAlongColumn) {
-            Checks.refused(x, Checks.INDEX, () -> x.run('c', way[0], way[1], way[2], 0, 0));
+            Checks.due(Checks.INDEX, () -> x.run('c', way[0], way[1], way[2], 0, 0));
         }
         x.setWeather(1, 5);
-        Checks.refused(x, Checks.UNSUPPORTED, () -> x.run('r', 0, 0, 0, 1, 0));
+        Checks.due(Checks.UNSUPPORTED, () -> x.run('r', 0, 0, 0, 1, 0));
         x.setWeather(1, 4);
         Checks.due(0, () -> x.run('r', 0, 0, 0, 1, 0));
         Checks.due(1, () -> x.run('r', 11, 19, 0, 1, 1));
@@ -44,26 +44,26 @@ final class LineTest {
     private static void runningInAnOrderOfExceptions() {
         SwathSurvey x = new SwathSurvey();
         x.setWeather(2, 9);
-        Checks.refused(x, Checks.ARGUMENT, () -> x.run('q', 99, 99, 99, 99, 99));
-        Checks.refused(x, Checks.INDEX, () -> x.run('r', 99, 0, 19, 2, 23));
-        Checks.refused(x, Checks.UNSUPPORTED, () -> x.run('r', 0, 0, 19, 2, 23));
+        Checks.due(Checks.ARGUMENT, () -> x.run('q', 99, 99, 99, 99, 99));
+        Checks.due(Checks.INDEX, () -> x.run('r', 99, 0, 19, 2, 23));
+        Checks.due(Checks.UNSUPPORTED, () -> x.run('r', 0, 0, 19, 2, 23));
         x.setWeather(2, 0);
-        Checks.refused(x, Checks.STATE, () -> x.run('r', 0, 0, 19, 2, 23));
+        Checks.due(Checks.STATE, () -> x.run('r', 0, 0, 19, 2, 23));
     }
 
     private static void hoursOfLines() {
         SwathSurvey x = new SwathSurvey();
-        Checks.refused(x, Checks.STATE, () -> x.run('r', 0, 0, 5, 0, 23));
+        Checks.due(Checks.STATE, () -> x.run('r', 0, 0, 5, 0, 23));
         Checks.due(0, () -> x.run('r', 0, 0, 4, 0, 23));
-        Checks.refused(x, Checks.STATE, () -> x.run('r', 0, 0, 0, 0, 23));
-        Checks.refused(x, Checks.STATE, () -> x.run('r', 0, 19, 10, 0, 22));
+        Checks.due(Checks.STATE, () -> x.run('r', 0, 0, 0, 0, 23));
+        Checks.due(Checks.STATE, () -> x.run('r', 0, 19, 10, 0, 22));
         Checks.due(1, () -> x.run('r', 0, 19, 10, 0, 21));
-        Checks.refused(x, Checks.STATE, () -> x.run('r', 0, 0, 19, 0, 18));
+        Checks.due(Checks.STATE, () -> x.run('r', 0, 0, 19, 0, 18));
         Checks.due(2, () -> x.run('r', 0, 0, 19, 0, 17));
-        Checks.refused(x, Checks.STATE, () -> x.run('c', 0, 0, 0, 0, 20));
-        Checks.refused(x, Checks.STATE, () -> x.run('c', 0, 0, 0, 0, 17));
+        Checks.due(Checks.STATE, () -> x.run('c', 0, 0, 0, 0, 20));
+        Checks.due(Checks.STATE, () -> x.run('c', 0, 0, 0, 0, 17));
         Checks.due(3, () -> x.run('c', 0, 0, 0, 1, 17));
-        Checks.refused(x, Checks.STATE, () -> x.run('c', 0, 0, 11, 1, 16));
+        Checks.due(Checks.STATE, () -> x.run('c', 0, 0, 11, 1, 16));
         Checks.due(4, () -> x.run('c', 0, 11, 0, 1, 14));
         Checks.due(7, () -> x.hours(0));
         Checks.due(4, () -> x.hours(1));
@@ -75,8 +75,8 @@ final class LineTest {
             int asked = number;
             Checks.due(number, () -> x.run('r', asked % 12, 0, 0, 0, asked));
         }
-        Checks.refused(x, Checks.STATE, () -> x.run('r', 0, 0, 0, 5, 0));
-        Checks.refused(x, Checks.INDEX, () -> x.run('r', 0, 0, 20, 5, 0));
+        Checks.due(Checks.STATE, () -> x.run('r', 0, 0, 0, 5, 0));
+        Checks.due(Checks.INDEX, () -> x.run('r', 0, 0, 20, 5, 0));
         Checks.due(16, x::lines);
         Checks.due(0, () -> x.dayOf(15));
         Checks.due(0, () -> x.runAnew(15, 5, 0));
@@ -163,22 +163,22 @@ final class LineTest {
 
     private static void runningAnewRefuses() {
         SwathSurvey x = new SwathSurvey();
-        Checks.refused(x, Checks.MISSING, () -> x.runAnew(0, 10, 24));
+        Checks.due(Checks.MISSING, () -> x.runAnew(0, 10, 24));
         x.run('r', 5, 0, 9, 0, 4);
         x.disturb(0, 0, 0, 7);
         x.run('c', 5, 0, 0, 0, 8);
         x.setWeather(1, 5);
-        Checks.refused(x, Checks.MISSING, () -> x.runAnew(2, 0, 0));
-        Checks.refused(x, Checks.MISSING, () -> x.runAnew(-1, 0, 0));
-        Checks.refused(x, Checks.INDEX, () -> x.runAnew(0, 10, 0));
-        Checks.refused(x, Checks.INDEX, () -> x.runAnew(0, -1, 0));
-        Checks.refused(x, Checks.INDEX, () -> x.runAnew(0, 1, 24));
-        Checks.refused(x, Checks.INDEX, () -> x.runAnew(0, 1, -1));
-        Checks.refused(x, Checks.UNSUPPORTED, () -> x.runAnew(0, 1, 23));
-        Checks.refused(x, Checks.STATE, () -> x.runAnew(0, 2, 23));
-        Checks.refused(x, Checks.STATE, () -> x.runAnew(0, 0, 7));
-        Checks.refused(x, Checks.STATE, () -> x.runAnew(0, 0, 8));
-        Checks.refused(x, Checks.STATE, () -> x.runAnew(1, 0, 5));
+        Checks.due(Checks.MISSING, () -> x.runAnew(2, 0, 0));
+        Checks.due(Checks.MISSING, () -> x.runAnew(-1, 0, 0));
+        Checks.due(Checks.INDEX, () -> x.runAnew(0, 10, 0));
+        Checks.due(Checks.INDEX, () -> x.runAnew(0, -1, 0));
+        Checks.due(Checks.INDEX, () -> x.runAnew(0, 1, 24));
+        Checks.due(Checks.INDEX, () -> x.runAnew(0, 1, -1));
+        Checks.due(Checks.UNSUPPORTED, () -> x.runAnew(0, 1, 23));
+        Checks.due(Checks.STATE, () -> x.runAnew(0, 2, 23));
+        Checks.due(Checks.STATE, () -> x.runAnew(0, 0, 7));
+        Checks.due(Checks.STATE, () -> x.runAnew(0, 0, 8));
+        Checks.due(Checks.STATE, () -> x.runAnew(1, 0, 5));
         Checks.due(0, () -> x.runAnew(0, 0, 5));
         Checks.due(0, () -> x.runAnew(0, 0, 6));
         Checks.due(20, () -> x.sounding(0, 0, 0));
@@ -186,7 +186,7 @@ final class LineTest {
 
     private static void disturbing() {
         SwathSurvey x = new SwathSurvey();
-        Checks.refused(x, Checks.MISSING, () -> x.disturb(0, 99, 99, 99));
+        Checks.due(Checks.MISSING, () -> x.disturb(0, 99, 99, 99));
         x.run('c', 1, 3, 6, 0, 0);
         Checks.due(0, () -> x.disturb(0, 3, -1, 60));
         Checks.due(60, () -> x.disturb(0, 3, -1, -60));
@@ -194,30 +194,30 @@ final class LineTest {
         Checks.due(25, () -> x.sounding(0, 3, -1));
         Checks.due(20, () -> x.sounding(0, 3, 1));
         Checks.due(20, () -> x.sounding(0, 2, -1));
-        Checks.refused(x, Checks.MISSING, () -> x.disturb(1, 0, 0, 0));
-        Checks.refused(x, Checks.MISSING, () -> x.disturb(-1, 0, 0, 0));
+        Checks.due(Checks.MISSING, () -> x.disturb(1, 0, 0, 0));
+        Checks.due(Checks.MISSING, () -> x.disturb(-1, 0, 0, 0));
         int[][] none = {{-1, 0}, {4, 0}, {0, -2}, {0, 3}, {0, Integer.MIN_VALUE}, {Integer.MAX_VALUE, 0}, {4, -7}};
         for (int[] place : none) {
-            Checks.refused(x, Checks.INDEX, () -> x.disturb(0, place[0], place[1], 61));
+            Checks.due(Checks.INDEX, () -> x.disturb(0, place[0], place[1], 61));
         }
-        Checks.refused(x, Checks.ARGUMENT, () -> x.disturb(0, 3, -1, 61));
-        Checks.refused(x, Checks.ARGUMENT, () -> x.disturb(0, 3, -1, -61));
+        Checks.due(Checks.ARGUMENT, () -> x.disturb(0, 3, -1, 61));
+        Checks.due(Checks.ARGUMENT, () -> x.disturb(0, 3, -1, -61));
         Checks.due(5, () -> x.disturb(0, 3, -1, 0));
     }
 
     private static void asking() {
         SwathSurvey x = new SwathSurvey();
-        Checks.refused(x, Checks.MISSING, () -> x.soundings(0));
-        Checks.refused(x, Checks.MISSING, () -> x.sounding(0, 0, 0));
+        Checks.due(Checks.MISSING, () -> x.soundings(0));
+        Checks.due(Checks.MISSING, () -> x.sounding(0, 0, 0));
         x.run('r', 6, 7, 7, 0, 0);
         Checks.due(5, () -> x.soundings(0));
-        Checks.refused(x, Checks.MISSING, () -> x.soundings(1));
-        Checks.refused(x, Checks.MISSING, () -> x.soundings(-1));
-        Checks.refused(x, Checks.MISSING, () -> x.sounding(1, 9, 9));
-        Checks.refused(x, Checks.INDEX, () -> x.sounding(0, 1, 0));
-        Checks.refused(x, Checks.INDEX, () -> x.sounding(0, -1, 0));
-        Checks.refused(x, Checks.INDEX, () -> x.sounding(0, 0, -3));
-        Checks.refused(x, Checks.INDEX, () -> x.sounding(0, 0, 3));
-        Checks.refused(x, Checks.INDEX, () -> x.sounding(0, 1, -7));
+        Checks.due(Checks.MISSING, () -> x.soundings(1));
+        Checks.due(Checks.MISSING, () -> x.soundings(-1));
+        Checks.due(Checks.MISSING, () -> x.sounding(1, 9, 9));
+        Checks.due(Checks.INDEX, () -> x.sounding(0, 1, 0));
+        Checks.due(Checks.INDEX, () -> x.sounding(0, -1, 0));
+        Checks.due(Checks.INDEX, () -> x.sounding(0, 0, -3));
+        Checks.due(Checks.INDEX, () -> x.sounding(0, 0, 3));
+        Checks.due(Checks.INDEX, () -> x.sounding(0, 1, -7));
     }
 }

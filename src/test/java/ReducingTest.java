@@ -176,22 +176,22 @@ final class ReducingTest {
 
     private static void refusing() {
         SwathSurvey x = new SwathSurvey();
-        Checks.refused(x, Checks.MISSING, () -> x.reduced(0, 0, 0));
-        Checks.refused(x, Checks.MISSING, () -> x.isSpike(0, 0, 0));
-        Checks.refused(x, Checks.MISSING, () -> x.spikes(0));
-        Checks.refused(x, Checks.MISSING, () -> x.lost(0));
+        Checks.due(Checks.MISSING, () -> x.reduced(0, 0, 0));
+        Checks.due(Checks.MISSING, () -> x.isSpike(0, 0, 0));
+        Checks.due(Checks.MISSING, () -> x.spikes(0));
+        Checks.due(Checks.MISSING, () -> x.lost(0));
         x.run('r', 6, 7, 9, 0, 0);
         for (int line : new int[] {-1, 1, 16, Integer.MIN_VALUE, Integer.MAX_VALUE}) {
-            Checks.refused(x, Checks.MISSING, () -> x.reduced(line, 9, 9));
-            Checks.refused(x, Checks.MISSING, () -> x.isSpike(line, 9, 9));
-            Checks.refused(x, Checks.MISSING, () -> x.spikes(line));
-            Checks.refused(x, Checks.MISSING, () -> x.lost(line));
+            Checks.due(Checks.MISSING, () -> x.reduced(line, 9, 9));
+            Checks.due(Checks.MISSING, () -> x.isSpike(line, 9, 9));
+            Checks.due(Checks.MISSING, () -> x.spikes(line));
+            Checks.due(Checks.MISSING, () -> x.lost(line));
         }
         for (int[] place : new int[][] {{-1, 0}, {3, 0}, {0, 3}, {0, -3}, {1, -7}, {1, Integer.MAX_VALUE}}) {
-            Checks.refused(x, Checks.INDEX, () -> x.reduced(0, place[0], place[1]));
-            Checks.refused(x, Checks.INDEX, () -> x.isSpike(0, place[0], place[1]));
+            Checks.due(Checks.INDEX, () -> x.reduced(0, place[0], place[1]));
+            Checks.due(Checks.INDEX, () -> x.isSpike(0, place[0], place[1]));
         }
-        Checks.refused(x, Checks.UNSUPPORTED, () -> x.reduced(0, 0, 0));
+        Checks.due(Checks.UNSUPPORTED, () -> x.reduced(0, 0, 0));
         Checks.due(false, () -> x.isSpike(0, 0, 0));
     }
 }

@@ -39,11 +39,11 @@ final class SeaTest {
         Checks.due(20, () -> x.setFloor(1, 0, 20));
         for (int[] cell : new int[][] {{-1, 0}, {20, 0}, {0, -1}, {0, 12}, {Integer.MIN_VALUE, 0},
                 {0, Integer.MAX_VALUE}, {12, 19}}) {
-            Checks.refused(x, Checks.INDEX, () -> x.setFloor(cell[0], cell[1], 5));
-            Checks.refused(x, Checks.INDEX, () -> x.setFloor(cell[0], cell[1], 0));
+            Checks.due(Checks.INDEX, () -> x.setFloor(cell[0], cell[1], 5));
+            Checks.due(Checks.INDEX, () -> x.setFloor(cell[0], cell[1], 0));
         }
         for (int depth : new int[] {0, -1, 100, Integer.MIN_VALUE, Integer.MAX_VALUE}) {
-            Checks.refused(x, Checks.ARGUMENT, () -> x.setFloor(0, 0, depth));
+            Checks.due(Checks.ARGUMENT, () -> x.setFloor(0, 0, depth));
         }
         Checks.due(50, () -> x.setFloor(0, 0, 20));
     }
@@ -58,14 +58,14 @@ final class SeaTest {
         Checks.due(0, () -> x.waterAt(0, 9, 22));
         Checks.due(0, () -> x.waterAt(0, 8, 23));
         for (int[] hour : new int[][] {{-1, 0}, {10, 0}, {0, -1}, {0, 24}, {Integer.MAX_VALUE, 1}, {1, Integer.MIN_VALUE}}) {
-            Checks.refused(x, Checks.INDEX, () -> x.setWater(hour[0], hour[1], 3));
-            Checks.refused(x, Checks.INDEX, () -> x.setWater(hour[0], hour[1], 31));
-            Checks.refused(x, Checks.INDEX, () -> x.waterAt(0, hour[0], hour[1]));
+            Checks.due(Checks.INDEX, () -> x.setWater(hour[0], hour[1], 3));
+            Checks.due(Checks.INDEX, () -> x.setWater(hour[0], hour[1], 31));
+            Checks.due(Checks.INDEX, () -> x.waterAt(0, hour[0], hour[1]));
         }
-        Checks.refused(x, Checks.ARGUMENT, () -> x.setWater(9, 23, -1));
-        Checks.refused(x, Checks.ARGUMENT, () -> x.setWater(9, 23, 31));
-        Checks.refused(x, Checks.INDEX, () -> x.waterAt(-1, 0, 0));
-        Checks.refused(x, Checks.INDEX, () -> x.waterAt(20, 0, 0));
+        Checks.due(Checks.ARGUMENT, () -> x.setWater(9, 23, -1));
+        Checks.due(Checks.ARGUMENT, () -> x.setWater(9, 23, 31));
+        Checks.due(Checks.INDEX, () -> x.waterAt(-1, 0, 0));
+        Checks.due(Checks.INDEX, () -> x.waterAt(20, 0, 0));
         Checks.due(17, () -> x.setWater(9, 23, 0));
     }
 
@@ -89,10 +89,10 @@ final class SeaTest {
         Checks.due(0, () -> x.waterAt(19, 3, 5));
         Checks.due(-10, () -> x.waterAt(19, 3, 6));
         Checks.due(0, () -> x.waterAt(19, 4, 6));
-        Checks.refused(x, Checks.INDEX, () -> x.setSlope(-1, 0));
-        Checks.refused(x, Checks.INDEX, () -> x.setSlope(10, 9));
-        Checks.refused(x, Checks.ARGUMENT, () -> x.setSlope(3, 3));
-        Checks.refused(x, Checks.ARGUMENT, () -> x.setSlope(3, -3));
+        Checks.due(Checks.INDEX, () -> x.setSlope(-1, 0));
+        Checks.due(Checks.INDEX, () -> x.setSlope(10, 9));
+        Checks.due(Checks.ARGUMENT, () -> x.setSlope(3, 3));
+        Checks.due(Checks.ARGUMENT, () -> x.setSlope(3, -3));
         Checks.due(-2, () -> x.setSlope(3, 0));
     }
 
@@ -101,10 +101,10 @@ final class SeaTest {
         Checks.due(0, () -> x.setWeather(0, 9));
         Checks.due(9, () -> x.setWeather(0, 4));
         Checks.due(0, () -> x.setWeather(9, 5));
-        Checks.refused(x, Checks.INDEX, () -> x.setWeather(-1, 0));
-        Checks.refused(x, Checks.INDEX, () -> x.setWeather(10, 10));
-        Checks.refused(x, Checks.ARGUMENT, () -> x.setWeather(0, -1));
-        Checks.refused(x, Checks.ARGUMENT, () -> x.setWeather(0, 10));
+        Checks.due(Checks.INDEX, () -> x.setWeather(-1, 0));
+        Checks.due(Checks.INDEX, () -> x.setWeather(10, 10));
+        Checks.due(Checks.ARGUMENT, () -> x.setWeather(0, -1));
+        Checks.due(Checks.ARGUMENT, () -> x.setWeather(0, 10));
         Checks.due(4, () -> x.setWeather(0, 0));
         Checks.due(5, () -> x.setWeather(9, 5));
     }

@@ -42,8 +42,8 @@ final class SurveyTest {
         x.runAnew(0, 8, 3);
         Checks.due(8, () -> x.dayOf(0));
         Checks.due(2, x::lines);
-        Checks.refused(x, Checks.MISSING, () -> x.dayOf(2));
-        Checks.refused(x, Checks.MISSING, () -> x.dayOf(-1));
+        Checks.due(Checks.MISSING, () -> x.dayOf(2));
+        Checks.due(Checks.MISSING, () -> x.dayOf(-1));
     }
 
     private static void linesToRun() {
@@ -92,12 +92,12 @@ final class SurveyTest {
 
     private static void crossingRefuses() {
         SwathSurvey x = new SwathSurvey();
-        Checks.refused(x, Checks.MISSING, () -> x.cross(0, 0));
+        Checks.due(Checks.MISSING, () -> x.cross(0, 0));
         x.run('r', 4, 3, 15, 0, 0);
-        Checks.refused(x, Checks.MISSING, () -> x.cross(0, 1));
-        Checks.refused(x, Checks.MISSING, () -> x.cross(1, 0));
-        Checks.refused(x, Checks.MISSING, () -> x.cross(-1, 0));
-        Checks.refused(x, Checks.ARGUMENT, () -> x.cross(0, 0));
+        Checks.due(Checks.MISSING, () -> x.cross(0, 1));
+        Checks.due(Checks.MISSING, () -> x.cross(1, 0));
+        Checks.due(Checks.MISSING, () -> x.cross(-1, 0));
+        Checks.due(Checks.ARGUMENT, () -> x.cross(0, 0));
         x.run('r', 4, 3, 15, 1, 0);
         x.run('c', 2, 0, 11, 2, 0);
         x.run('c', 16, 0, 11, 2, 3);
@@ -106,15 +106,15 @@ final class SurveyTest {
         x.run('c', 5, 4, 11, 2, 9);
         for (int other = 0; other < 6; other++) {
             int asked = other;
-            Checks.refused(x, Checks.ARGUMENT, () -> x.cross(0, asked));
-            Checks.refused(x, Checks.ARGUMENT, () -> x.cross(asked, 0));
+            Checks.due(Checks.ARGUMENT, () -> x.cross(0, asked));
+            Checks.due(Checks.ARGUMENT, () -> x.cross(asked, 0));
         }
-        Checks.refused(x, Checks.UNSUPPORTED, () -> x.cross(0, 6));
+        Checks.due(Checks.UNSUPPORTED, () -> x.cross(0, 6));
         x.addGauge(5);
         Checks.due(0, () -> x.cross(0, 6));
         x.fail(0, 0, 0, 24);
-        Checks.refused(x, Checks.UNSUPPORTED, () -> x.cross(0, 6));
-        Checks.refused(x, Checks.UNSUPPORTED, () -> x.cross(6, 0));
+        Checks.due(Checks.UNSUPPORTED, () -> x.cross(0, 6));
+        Checks.due(Checks.UNSUPPORTED, () -> x.cross(6, 0));
         Checks.due(0, () -> x.cross(1, 6));
     }
 
@@ -123,7 +123,7 @@ final class SurveyTest {
         x.addGauge(0);
         x.run('r', 4, 0, 19, 0, 0);
         x.run('r', 8, 0, 19, 1, 0);
-        Checks.refused(x, Checks.UNSUPPORTED, x::worstCross);
+        Checks.due(Checks.UNSUPPORTED, x::worstCross);
         x.run('c', 6, 0, 11, 2, 0);
         Checks.due(0, x::worstCross);
         x.run('c', 7, 0, 11, 3, 0);
@@ -138,7 +138,7 @@ final class SurveyTest {
         x.fail(0, 2, 0, 24);
         Checks.due(0, x::worstCross);
         x.fail(0, 3, 0, 24);
-        Checks.refused(x, Checks.UNSUPPORTED, x::worstCross);
+        Checks.due(Checks.UNSUPPORTED, x::worstCross);
         x.mend(0, 1);
         x.mend(0, 2);
         // Then lines 1 and 2, run one behind the other, are the worst pair.
@@ -202,7 +202,7 @@ final class SurveyTest {
 
     private static void writing() {
         SwathSurvey x = new SwathSurvey();
-        Checks.refused(x, Checks.MISSING, () -> x.writeLine(0));
+        Checks.due(Checks.MISSING, () -> x.writeLine(0));
         x.addGauge(0);
         x.run('r', 3, 0, 19, 2, 8);
         dueText(x, "r3:0-19@2/8 good", 0);
@@ -214,14 +214,14 @@ final class SurveyTest {
         dueText(x, "r3:0-19@2/8 part", 0);
         x.fail(0, 2, 0, 24);
         dueText(x, "r3:0-19@2/8 bad", 0);
-        Checks.refused(x, Checks.MISSING, () -> x.writeLine(2));
-        Checks.refused(x, Checks.MISSING, () -> x.writeLine(-1));
+        Checks.due(Checks.MISSING, () -> x.writeLine(2));
+        Checks.due(Checks.MISSING, () -> x.writeLine(-1));
         Checks.due("r3:0-19@2/8 bad", () -> textOf(x, 15));
         x.runAnew(0, 0, 0);
         dueText(x, "r3:0-19@0/0 good", 0);
-        Checks.refused(x, Checks.INDEX, () -> x.textAt(-1));
-        Checks.refused(x, Checks.INDEX, () -> x.textAt(16));
-        Checks.refused(x, Checks.INDEX, () -> x.textAt(Integer.MAX_VALUE));
+        Checks.due(Checks.INDEX, () -> x.textAt(-1));
+        Checks.due(Checks.INDEX, () -> x.textAt(16));
+        Checks.due(Checks.INDEX, () -> x.textAt(Integer.MAX_VALUE));
         x.run('r', 7, 5, 5, 1, 0);
         dueText(x, "r7:5-5@1/0 good", 2);
     }
