@@ -170,11 +170,11 @@ public final class SwathSurvey {
         requireWay(alongRow, index, from, to);
         requireHour(day, hour);
         requireCalm(day);
-        Line made = new Line(alongRow, index, from, to);
         int number = lineCount;
-        if (number < 0 || number >= lines.length || !isFree(made, day, hour)) {
+        if (number < 0 || number >= lines.length || !isFree(null, hoursBehind(from, to), day, hour)) {
             throw new IllegalStateException("the line has no place");
         }
+        Line made = new Line(alongRow, index, from, to);
         lines[number] = made;
         lineCount = number + 1;
         made.soundAll(sea, day, hour);
@@ -188,7 +188,7 @@ public final class SwathSurvey {
         Line again = requireLine(line);
         requireHour(day, hour);
         requireCalm(day);
-        if (!isFree(again, day, hour)) {
+        if (!isFree(again, again.lastBehind(), day, hour)) {
             throw new IllegalStateException("the line has no place");
         }
         again.soundAll(sea, day, hour);
@@ -517,8 +517,14 @@ public final class SwathSurvey {
         return gained;
     }
 
-    private boolean isFree(Line asking, int day, int hour) {
-        int last = hour + asking.hoursBehind();
+    /** How many hours the last cell of a way is sounded behind the first one. */
+    private static int hoursBehind(int from, int to) {
+        return Math.abs(to - from) / CELLS_AN_HOUR;
+    }
+
+    /** Whether the hours from this one on are of this day and of no line, but for the one that asks, if there is one. */
+    private boolean isFree(Line asking, int behind, int day, int hour) {
+        int last = hour + behind;
         if (last >= HOURS) {
             return false;
         }
@@ -545,7 +551,7 @@ public final class SwathSurvey {
         for (int number = 0; number < lineCount; number++) {
             Line line = lineOrNull(number);
             if (line != null && line.ranOn() == day) {
-                sum += line.hoursBehind() + 1;
+                sum += line.lastBehind() + 1;
             }
         }
         return sum;
@@ -799,13 +805,12 @@ public final class SwathSurvey {
             return day;
         }
 
-        /** How many hours the last cell is sounded behind the first one. */
-        int hoursBehind() {
-            return (cells - 1) / CELLS_AN_HOUR;
+        int lastBehind() {
+            return hoursBehind(from, to);
         }
 
         boolean isSoundedIn(int asked, int first, int last) {
-            return day == asked && hour <= last && hour + hoursBehind() >= first;
+            return day == asked && hour <= last && hour + lastBehind() >= first;
         }
 
         /** Sounds by the floor and the water as they are now; a later change of them alters no sounding. */

@@ -122,6 +122,14 @@ final class LineEdgeTest {
         Checks.due(46, () -> x.sounding(2, 6, -1));
         Checks.due(48, () -> x.sounding(3, 5, 1));
         Checks.due(46, () -> x.sounding(3, 5, -1));
+        x.setFloor(3, 5, 11);
+        x.setFloor(3, 7, 12);
+        x.runAnew(1, 0, 3);
+        x.run('r', 6, 0, 9, 1, 0);
+        Checks.due(11, () -> x.sounding(1, 3, -1));
+        Checks.due(12, () -> x.sounding(1, 3, 1));
+        Checks.due(11, () -> x.sounding(4, 3, -1));
+        Checks.due(12, () -> x.sounding(4, 3, 1));
     }
 
     /** "... its cell with the number k is sounded in the hour k divided by 5, rounded down, behind the first one." */

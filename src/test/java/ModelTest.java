@@ -1,6 +1,4 @@
-import java.lang.reflect.InvocationTargetException;
 import java.lang.reflect.Method;
-import java.util.Arrays;
 import java.util.Random;
 import java.util.TreeMap;
 
@@ -21,8 +19,7 @@ final class ModelTest {
         "textAt 4 0 18", "isSure 3"};
 
     private final Random random;
-    private final SwathSurvey survey = new SwathSurvey();
-    private final Model model = new Model();
+    private final Both both = new Both();
     private final int days;
 
     private ModelTest(int seed) {
@@ -42,15 +39,10 @@ final class ModelTest {
     private void run(int seed, TreeMap<String, TreeMap<String, Integer>> seen) throws Exception {
         for (int number = 0; number < CALLS; number++) {
             String[] call = pick().split(" ");
-            Method asked = methodOf(SwathSurvey.class, call[0]);
-            Object[] values = arguments(asked, call);
-            String got = answer(asked, survey, values);
-            String want = answer(methodOf(Model.class, call[0]), model, values);
-            if (!want.equals(got)) {
-                Checks.wrong("run " + seed + ", call " + number + ": " + call[0] + Arrays.toString(values)
-                    + " answered " + got + ", due is " + want);
+            if (!both.agree("run " + seed + ", call " + number, call[0], arguments(call))) {
                 return;
             }
+            String want = both.due();
             String kind = want.startsWith("throws.") ? want : call[0].equals("isSpike") ? want : "answers";
             seen.computeIfAbsent(call[0], name -> new TreeMap<>()).merge(kind, 1, Integer::sum);
         }
@@ -71,7 +63,8 @@ final class ModelTest {
         throw new IllegalStateException("no call");
     }
 
-    private Object[] arguments(Method asked, String[] call) {
+    private Object[] arguments(String[] call) {
+        Method asked = Both.methodOf(SwathSurvey.class, call[0]);
         Object[] values = new Object[asked.getParameterCount()];
         boolean alongRow = random.nextBoolean();
         for (int place = 0; place < values.length; place++) {
@@ -90,7 +83,7 @@ final class ModelTest {
 
     /** Numbers of lines stay near those that there are. */
     private int narrowed(int greatest) {
-        return greatest == 15 ? Math.max(1, Math.min(15, model.lines())) : greatest;
+        return greatest == 15 ? Math.max(1, Math.min(15, both.model.lines())) : greatest;
     }
 
     private int number(int least, int greatest) {
@@ -104,23 +97,6 @@ final class ModelTest {
         return least + random.nextInt(greatest - least + 1);
     }
 
-    private static Method methodOf(Class<?> owner, String name) {
-        for (Method method : owner.getDeclaredMethods()) {
-            if (method.getName().equals(name) && java.lang.reflect.Modifier.isPublic(method.getModifiers())) {
-                return method;
-            }
-        }
-        throw new IllegalStateException("no method " + name);
-    }
-
-    private static String answer(Method asked, Object owner, Object[] values) throws IllegalAccessException {
-        try {
-            return String.valueOf(asked.invoke(owner, values));
-        } catch (InvocationTargetException thrown) {
-            return "throws." + thrown.getCause().getClass().getSimpleName();
-        }
-    }
-
     /** A run that never came to an exception or to a spike would prove little. */
     private static void checkThatAllWasSeen(TreeMap<String, TreeMap<String, Integer>> seen) {
         for (Method method : SwathSurvey.class.getDeclaredMethods()) {
@@ -128,7 +104,8 @@ final class ModelTest {
                 continue;
             }
             TreeMap<String, Integer> answers = seen.getOrDefault(method.getName(), new TreeMap<>());
-            boolean told = answers.containsKey("answers") || answers.containsKey("true") && answers.containsKey("false");
+            boolean told = answers.containsKey("answers")
+                || answers.containsKey("true") && answers.containsKey("false");
             if (!told) {
                 Checks.wrong(method.getName() + " never answered");
             }

@@ -60,15 +60,18 @@ final class ReducingEdgeTest {
     private static void aSoundingIsReducedByTheTideInTheColumnOfTheShip() {
         SwathSurvey x = new SwathSurvey();
         x.setSlope(0, 2);
-        x.addGauge(10);
-        x.addGauge(12);
-        x.run('c', 12, 0, 0, 0, 0);
-        x.run('c', 9, 0, 0, 0, 1);
+        x.addGauge(0);
+        x.addGauge(19);
+        x.run('c', 10, 0, 0, 0, 0);
+        x.run('c', 5, 0, 0, 0, 1);
+        x.run('r', 0, 10, 10, 0, 2);
         for (int side = -2; side <= 2; side++) {
             int asked = side;
-            Checks.due(20, () -> x.reduced(0, 0, asked));
-            // The water is 4 in column 9, and the tide is that of column 10.
-            Checks.due(19, () -> x.reduced(1, 0, asked));
+            // The water is 5 in column 10, the tide 4, but 5 in column 11.
+            Checks.due(21, () -> x.reduced(0, 0, asked));
+            // The water and the tide are 2 in column 5, but the tide is 1 in column 4.
+            Checks.due(20, () -> x.reduced(1, 0, asked));
+            Checks.due(asked < 0 ? Checks.INDEX : 21, () -> x.reduced(2, 0, asked));
         }
     }
 

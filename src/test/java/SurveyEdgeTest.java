@@ -94,6 +94,15 @@ final class SurveyEdgeTest {
         Checks.due(16, x::toRun);
         x.mend(0, 0);
         Checks.due(0, x::toRun);
+        // One lost sounding of 26 is enough.
+        SwathSurvey y = new SwathSurvey();
+        y.addGauge(0);
+        y.setFloor(5, 3, 9);
+        y.run('r', 3, 0, 5, 0, 0);
+        Checks.due(0, y::toRun);
+        y.fail(0, 0, 1, 24);
+        Checks.due(1, () -> y.lost(0));
+        Checks.due(1, y::toRun);
     }
 
     /** "... where they cross: one line along a row and one along a column, in the cell of both ways." */
