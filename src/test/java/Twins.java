@@ -2,8 +2,9 @@ import java.util.ArrayList;
 import java.util.List;
 
 /**
- * Surveys that are made alike: to some, calls are made that throw; then they answer every question as those do that
- * were left alone. Each round of questions goes to a survey of its own, so that none comes to its 513th call.
+ * Surveys that are made alike: to some, calls are made that throw or that only look; then they answer every question as
+ * those do that were left alone. Each round of questions goes to a survey of its own, so that none comes to its 513th
+ * call.
  */
 final class Twins {
     interface Maker {
@@ -19,7 +20,7 @@ final class Twins {
     private final Maker maker;
     private final List<List<Question>> rounds;
     private final List<List<String>> leftAlone = new ArrayList<>();
-    private final List<Question> refused = new ArrayList<>();
+    private final List<Question> batch = new ArrayList<>();
     private String firstCaller = "";
 
     Twins(Maker maker) {
@@ -34,27 +35,32 @@ final class Twins {
     void refuse(String want, Question call) {
         SwathSurvey survey = maker.make();
         Checks.due(want, () -> call.ask(survey));
-        if (refused.isEmpty()) {
+        look(call);
+    }
+
+    /** The call changes nothing, whatever it answers. */
+    void look(Question call) {
+        if (batch.isEmpty()) {
             firstCaller = Checks.caller();
         }
-        refused.add(call);
-        if (refused.size() >= BATCH) {
+        batch.add(call);
+        if (batch.size() >= BATCH) {
             end();
         }
     }
 
-    /** Compares what all refused calls since the last time have left. */
+    /** Compares what all calls since the last time have left. */
     void end() {
-        for (int number = 0; number < rounds.size() && !refused.isEmpty(); number++) {
+        for (int number = 0; number < rounds.size() && !batch.isEmpty(); number++) {
             SwathSurvey survey = maker.make();
-            answers(survey, refused);
+            answers(survey, batch);
             List<String> after = answers(survey, rounds.get(number));
             if (!after.equals(leftAlone.get(number))) {
-                Checks.wrong("a refused call from " + firstCaller + " to " + Checks.caller()
+                Checks.wrong("a call from " + firstCaller + " to " + Checks.caller()
                     + " changed answers of round " + number);
             }
         }
-        refused.clear();
+        batch.clear();
     }
 
     private static List<String> answers(SwathSurvey survey, List<Question> questions) {
