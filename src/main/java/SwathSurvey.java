@@ -757,7 +757,7 @@ public final class SwathSurvey {
             for (int number = 0; number < count; number++) {
                 Gauge gauge = gaugeOrNull(number);
                 int height = gauge == null ? NOTHING : gauge.tellsIn(sea, day, hour);
-                if (height == NOTHING) {
+                if (gauge == null || height == NOTHING) {
                     continue;
                 }
                 int place = gauge.place();
